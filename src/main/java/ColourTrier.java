@@ -346,9 +346,9 @@ public final class ColourTrier {
             return possible;
         }
 
-        /** Spares trying the program's acts where it has none left. */
+        /** Spares trying the program's acts where it can do none. */
         int lastActToTry(long s) {
-            return State.actsLeft(s) > 0 ? LAST_ACT : END;
+            return State.actsLeft(s) > 0 && !State.isOver(s) ? LAST_ACT : END;
         }
 
         /** The STATE behind an act, 0 .. 49, or IMPOSSIBLE. */
