@@ -1,6 +1,9 @@
 import java.util.Arrays;
 
-/** Each promise of the document by itself, with answers worked out by hand. */
+/**
+ * Each promise of the document by itself, with answers worked out by hand; but the set-ups at the
+ * limit of 20000 STATES were searched for, and ReferenceTest has its model answer them too.
+ */
 public final class PromisesTest {
     private static final Class<?> ARGUMENT = IllegalArgumentException.class;
     private static final Class<?> STATE = IllegalStateException.class;

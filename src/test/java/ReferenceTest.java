@@ -262,7 +262,17 @@ public final class ReferenceTest {
     }
 
     private static Model setUp(ColourTrier x, int[] sizes, int barriers, int acts, Random random) {
+        int[] links = new int[sizes[0] * sizes[1] + sizes[2]];
+        for (int n = 0; n < links.length; n++) {
+            links[n] = random.nextInt(sizes[0] + 1) - 1;
+        }
+        return setUp(x, sizes, barriers, acts, links);
+    }
+
+    /** What FIELDS have, OBJECT by OBJECT, and then what ROOTS have. */
+    private static Model setUp(ColourTrier x, int[] sizes, int barriers, int acts, int... links) {
         Model m = new Model();
+        int n = 0;
         m.objects = sizes[0];
         m.fields = sizes[1];
         m.roots = sizes[2];
@@ -272,12 +282,12 @@ public final class ReferenceTest {
         x.rules(barriers, acts);
         for (int o = 0; o < m.objects; o++) {
             for (int f = 0; f < m.fields; f++) {
-                m.has[o][f] = random.nextInt(m.objects + 1) - 1;
+                m.has[o][f] = links[n++];
                 x.point(o, f, m.has[o][f]);
             }
         }
         for (int i = 0; i < m.roots; i++) {
-            m.root[i] = random.nextInt(m.objects + 1) - 1;
+            m.root[i] = links[n++];
             x.root(i, m.root[i]);
         }
         return m;
@@ -372,9 +382,21 @@ public final class ReferenceTest {
         }
     }
 
+    /** 20000 STATES in all, one more, a BROKEN one as the 20000th, and one as the 20001st. */
+    private static void compareAtTheLimit() {
+        ColourTrier x = new ColourTrier();
+        compareFind("20000 in all", x, setUp(x, new int[] {2, 1, 3}, 38, 8, 0, 0, 1, 1, 0), 0);
+        due("20000 in all: count(5)", x.count(5), LIMIT);
+        compareFind("20001 in all", x, setUp(x, new int[] {2, 1, 3}, 40, 8, 1, 1, 0, 0, 1), 0);
+        compareFind("20000th", x, setUp(x, new int[] {3, 2, 3}, 32, 5, 0, -1, 1, -1, -1, 2, 1, 2, 1), 1);
+        due("20000th: count(5)", x.count(5), LIMIT);
+        compareFind("20001st", x, setUp(x, new int[] {3, 1, 3}, 2, 4, 0, 1, 2, 0, 1, 2), 0);
+    }
+
     public static void main(String[] args) {
         compareManySetups();
         compareLargeSetups();
+        compareAtTheLimit();
         System.out.println(wrong == 0 ? "all answers are as due" : wrong + " answers are not as due");
         if (wrong != 0) {
             System.exit(1);
