@@ -2,7 +2,8 @@ import java.util.Arrays;
 
 /**
  * Each promise of the document by itself, with answers worked out by hand; but the set-ups at the
- * limit of 20000 STATES were searched for, and ReferenceTest has its model answer them too.
+ * limit of 20000 STATES were searched for, and ReferenceTest has its model answer them too. No
+ * object gets more than 512 calls.
  */
 public final class PromisesTest {
     private static final Class<?> ARGUMENT = IllegalArgumentException.class;
@@ -88,19 +89,21 @@ public final class PromisesTest {
     /** All that can be seen of an object, to tell whether a call changed something. */
     private static String seen(ColourTrier x) {
         StringBuilder b = new StringBuilder();
+        int[] counts = new int[9];
         for (int what = 0; what < 9; what++) {
-            b.append(x.count(what)).append(' ');
+            counts[what] = x.count(what);
+            b.append(counts[what]).append(' ');
         }
-        for (int o = 0; o < x.count(0); o++) {
+        for (int o = 0; o < counts[0]; o++) {
             b.append(x.colour(o)).append(':');
-            for (int f = 0; f < x.count(1); f++) {
+            for (int f = 0; f < counts[1]; f++) {
                 b.append(x.field(o, f)).append(' ');
             }
         }
-        for (int i = 0; i < x.count(2); i++) {
+        for (int i = 0; i < counts[2]; i++) {
             b.append(x.has(i)).append(' ');
         }
-        for (int i = 0; i < x.count(6); i++) {
+        for (int i = 0; i < counts[6]; i++) {
             b.append(x.act(i)).append(' ');
         }
         return b.toString();
@@ -195,10 +198,10 @@ public final class PromisesTest {
         x.size(1, 1, 1);
         x.size(4, 2, 3);
         due("has(2) behind less and more", x.has(2), -1);
-        ColourTrier y = busy();
         int[][] bad = {{0, 1, 1}, {5, 1, 1}, {1, 0, 1}, {1, 3, 1}, {1, 1, 0}, {1, 1, 4}, {-1, 1, 1},
             {4, 2, Integer.MAX_VALUE}, {Integer.MIN_VALUE, 2, 3}};
         for (int[] b : bad) {
+            ColourTrier y = busy();
             refused("size" + Arrays.toString(b), ARGUMENT, y, () -> y.size(b[0], b[1], b[2]));
         }
     }
@@ -219,10 +222,10 @@ public final class PromisesTest {
         playAll(x, LOOK);
         x.again();
         due("field(0, 0) behind again", x.field(0, 0), 0);
-        ColourTrier y = busy();
         int[][] bad = {{-1, 0, 0}, {3, 0, 0}, {0, -1, 0}, {0, 2, 0}, {0, 0, -2}, {0, 0, 3},
             {Integer.MAX_VALUE, 0, 0}, {0, 0, Integer.MIN_VALUE}};
         for (int[] b : bad) {
+            ColourTrier y = busy();
             refused("point" + Arrays.toString(b), ARGUMENT, y, () -> y.point(b[0], b[1], b[2]));
         }
     }
@@ -239,9 +242,9 @@ public final class PromisesTest {
         x.root(0, 2);
         roots("behind root(0, 2)", x, 2, 2);
         due("field(0, 0) stays", x.field(0, 0), 1);
-        ColourTrier y = busy();
         int[][] bad = {{-1, 0}, {2, 0}, {0, -2}, {0, 3}, {Integer.MIN_VALUE, 0}, {0, Integer.MAX_VALUE}};
         for (int[] b : bad) {
+            ColourTrier y = busy();
             refused("root" + Arrays.toString(b), ARGUMENT, y, () -> y.root(b[0], b[1]));
         }
     }
@@ -260,9 +263,9 @@ public final class PromisesTest {
         due("count(3)", x.count(3), 0);
         due("count(4)", x.count(4), 0);
         thrown("CLEAR without acts", STATE, () -> x.play(clear(0)));
-        ColourTrier y = busy();
         int[][] bad = {{-1, 0}, {128, 0}, {0, -1}, {0, 9}, {Integer.MAX_VALUE, 0}, {0, Integer.MIN_VALUE}};
         for (int[] b : bad) {
+            ColourTrier y = busy();
             refused("rules" + Arrays.toString(b), ARGUMENT, y, () -> y.rules(b[0], b[1]));
         }
     }
@@ -285,8 +288,8 @@ public final class PromisesTest {
         findLawsBroken();
         findAtTheLimit();
         findLeavesTheState();
-        ColourTrier y = busy();
         for (int bad : new int[] {-1, 4, Integer.MIN_VALUE, Integer.MAX_VALUE}) {
+            ColourTrier y = busy();
             refused("find(" + bad + ")", ARGUMENT, y, () -> y.find(bad));
         }
     }
@@ -392,8 +395,8 @@ public final class PromisesTest {
     }
 
     private static void play() {
-        ColourTrier x = busy();
         for (int bad : new int[] {-1, 50, Integer.MIN_VALUE, Integer.MAX_VALUE}) {
+            ColourTrier x = busy();
             refused("play(" + bad + ")", ARGUMENT, x, () -> x.play(bad));
         }
         playLooks();
@@ -470,11 +473,10 @@ public final class PromisesTest {
 
     /** Numbers 0 .. 49 that name a ROOT or FIELD which the set-up lacks can not be done. */
     private static void playBeyondTheSetUp() {
-        ColourTrier x = simple(0, 8, links(0), 0);
         int possible = 0;
         for (int act = 0; act < 50; act++) {
             int tried = act;
-            x.again();
+            ColourTrier x = simple(0, 8, links(0), 0);
             if (act == LOOK || act == load(0, 0, 0) || act == store(0, 0, 0) || act == clear(0)) {
                 x.play(act);
                 possible++;
@@ -482,10 +484,11 @@ public final class PromisesTest {
                 refused("play(" + act + ") with one ROOT and FIELD", STATE, x, () -> x.play(tried));
             }
         }
-        due("again()", x.again(), possible);
-        x.size(1, 2, 2);
-        refused("COPY from ROOT 2 of 2", STATE, x, () -> x.play(copy(0, 2)));
-        refused("CLEAR of ROOT 2 of 2", STATE, x, () -> x.play(clear(2)));
+        ColourTrier y = simple(0, 8, links(0), 0);
+        due("again()", y.again(), possible);
+        y.size(1, 2, 2);
+        refused("COPY from ROOT 2 of 2", STATE, y, () -> y.play(copy(0, 2)));
+        refused("CLEAR of ROOT 2 of 2", STATE, y, () -> y.play(clear(2)));
     }
 
     private static void playToTheEnd() {
@@ -503,7 +506,9 @@ public final class PromisesTest {
         due("count(8) at the end", x.count(8), 1);
         for (int act = 0; act < 50; act++) {
             int tried = act;
-            refused("play(" + act + ") when it is over", STATE, x, () -> x.play(tried));
+            ColourTrier over = simple(0, 1, links(-1), 0);
+            playAll(over, LOOK, LOOK, END);
+            refused("play(" + act + ") when it is over", STATE, over, () -> over.play(tried));
         }
     }
 
@@ -668,8 +673,8 @@ public final class PromisesTest {
         weakBehindBlack();
         lostOverFields();
         floating();
-        ColourTrier z = busy();
         for (int bad : new int[] {-1, 4, Integer.MIN_VALUE, Integer.MAX_VALUE}) {
+            ColourTrier z = busy();
             refused("broken(" + bad + ")", ARGUMENT, z, () -> z.broken(bad));
         }
     }

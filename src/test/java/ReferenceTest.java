@@ -7,7 +7,8 @@ import java.util.Random;
 
 /**
  * Sets ColourTrier beside a slow model that was written from the document alone, with arrays in
- * place of bits and a list of successors in place of numbers taken apart.
+ * place of bits and a list of successors in place of numbers taken apart. No object gets more
+ * than 512 calls.
  */
 public final class ReferenceTest {
     private static final int LIMIT = 20000;
@@ -331,6 +332,8 @@ public final class ReferenceTest {
 
     private static void comparePlay(String name, ColourTrier x, Model first, Random random) {
         Model now = first;
+        // To look at each third STATE keeps an object below its 512 calls.
+        int shownAt = random.nextInt(3);
         due(name + " again()", x.again(), possible(first.successors()));
         for (int step = 0; step < 60; step++) {
             // The collector's acts come often, so that plays reach the end.
@@ -345,27 +348,30 @@ public final class ReferenceTest {
             }
             now = next == null ? now : next;
             due(call, answer, next == null ? -1 : possible(now.successors()));
-            compareState(call, x, now);
+            if (step % 3 == shownAt) {
+                compareState(call, x, now);
+            }
         }
     }
 
     /** All barriers with small sizes, chosen sizes with chosen barriers: finds and plays. */
     private static void compareManySetups() {
         Random random = new Random(20261115);
-        ColourTrier x = new ColourTrier();
         for (int n = 0; n < 900; n++) {
             int[] sizes = {1 + random.nextInt(4), 1 + random.nextInt(2), 1 + random.nextInt(3)};
             int barriers = n < 256 ? n % 128 : random.nextInt(128) & random.nextInt(128);
             int acts = random.nextInt(sizes[0] * sizes[1] * sizes[2] > 8 ? 3 : 5);
+            ColourTrier x = new ColourTrier();
             Model m = setUp(x, sizes, barriers, acts, random);
             String name = "set-up " + n + " " + Arrays.toString(sizes) + " " + barriers + " " + acts;
             compareFind(name, x, m, n % 4);
             compareFind(name, x, m, random.nextInt(4));
         }
-        for (int n = 0; n < 600; n++) {
+        for (int n = 0; n < 1800; n++) {
             int[] sizes = {1 + random.nextInt(4), 1 + random.nextInt(2), 1 + random.nextInt(3)};
             int barriers = n % 128;
             int acts = random.nextInt(9);
+            ColourTrier x = new ColourTrier();
             Model m = setUp(x, sizes, barriers, acts, random);
             comparePlay("play " + n + " " + Arrays.toString(sizes) + " " + barriers + " " + acts, x, m, random);
         }
@@ -374,9 +380,9 @@ public final class ReferenceTest {
     /** Large set-ups, most of which pass the limit. */
     private static void compareLargeSetups() {
         Random random = new Random(7);
-        ColourTrier x = new ColourTrier();
         for (int n = 0; n < 24; n++) {
             int[] sizes = {3 + n % 2, 2, 2 + n % 2};
+            ColourTrier x = new ColourTrier();
             Model m = setUp(x, sizes, n % 3 == 0 ? 127 : 1 << n % 7, 3 + n % 6, random);
             compareFind("large " + n, x, m, n % 4);
         }
