@@ -650,19 +650,36 @@ public final class BoundariesTest {
         laws("BLACK 0 has itself", x, false, false, false, false);
     }
 
-    /** A GREY one has the WHITE one in a FIELD that was looked at: it leads there all the same. */
+    /** A way over the BLACK one itself is none, whether it begins with it or comes there from a WHITE one. */
+    private static void weakOverABlackOne() {
+        ColourTrier x = simple(0, 8, links(-1, 2, 3, -1), 0, 1, -1);
+        playAll(x, LOOK, LOOK, LOOK, LOOK, load(2, 1, 0), load(1, 2, 0), store(0, 1, 0));
+        colours("0 is BLACK, 1 GREY", x, 2, 1, 0, 0);
+        laws("GREY 1, WHITE 2, WHITE 3", x, false, true, false, false);
+        x.play(store(2, 0, 0));
+        laws("GREY 1, WHITE 2, BLACK 0, WHITE 3", x, false, true, true, false);
+        ColourTrier y = simple(0, 8, links(-1, 2, 3, -1), 0, 1, 1);
+        playAll(y, LOOK, LOOK, LOOK, LOOK, load(1, 1, 0), load(1, 1, 0), store(0, 1, 0));
+        laws("GREY 1, WHITE 2, WHITE 3", y, false, true, false, false);
+        y.play(store(2, 0, 0));
+        laws("GREY 1, BLACK 0, WHITE 3", y, false, true, true, false);
+    }
+
+    /** GREY 1 has WHITE 2 in FIELD 0, which was looked at before: it leads there all the same. */
     private static void weakOverAFieldLookedAt() {
         ColourTrier x = new ColourTrier();
-        x.size(3, 2, 2);
-        x.rules(0, 3);
+        x.size(3, 2, 3);
+        x.rules(0, 8);
         x.root(0, 0);
         x.root(1, 1);
         x.point(1, 1, 2);
-        playAll(x, LOOK, LOOK, LOOK, LOOK, LOOK);
+        playAll(x, LOOK, LOOK, LOOK, LOOK, LOOK, LOOK, load(2, 1, 1), store(0, 2, 0));
         colours("FIELD 0 of GREY 1 was looked at", x, 2, 1, 0);
-        x.play(load(1, 1, 1));
-        x.play(store(0, 1, 1));
-        laws("GREY 1 has it in FIELD 1", x, false, true, false, false);
+        laws("GREY 1 has 2 in FIELD 1 alone", x, false, true, false, false);
+        playAll(x, store(1, 2, 0), store(1, 0, 1));
+        laws("GREY 1 has 2 in FIELD 0 alone", x, false, true, false, false);
+        x.play(store(1, 0, 0));
+        laws("GREY 1 has it no more", x, false, true, true, false);
     }
 
     private static void floatingWithoutRoots() {
@@ -1022,6 +1039,7 @@ public final class BoundariesTest {
         run("an OBJECT that ROOTS lead to (over FIELDS) is WHITE", BoundariesTest::lostAtTheEndOfTheLongestWay);
         run("LOST: it is over", BoundariesTest::lostInARootItself);
         run("to which no GREY one leads over WHITE ones alone", BoundariesTest::strongAndWeak);
+        run("over WHITE ones alone", BoundariesTest::weakOverABlackOne);
         run("no GREY one leads", BoundariesTest::weakOverAFieldLookedAt);
         run("an OBJECT that ROOTS do not lead to is BLACK", BoundariesTest::floatingWithoutRoots);
     }

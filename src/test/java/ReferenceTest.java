@@ -334,10 +334,11 @@ public final class ReferenceTest {
         Model now = first;
         // To look at each third STATE keeps an object below its 512 calls.
         int shownAt = random.nextInt(3);
+        int rare = 2 + random.nextInt(3);
         due(name + " again()", x.again(), possible(first.successors()));
         for (int step = 0; step < 60; step++) {
-            // The collector's acts come often, so that plays reach the end.
-            int act = random.nextInt(2) == 0 ? random.nextInt(2) : random.nextInt(50);
+            // The collector's acts come often, so that plays reach the end, but not in all plays as often.
+            int act = random.nextInt(rare) == 0 ? random.nextInt(2) : random.nextInt(50);
             String call = name + " step " + step + " play(" + act + ")";
             Model next = now.successors()[act];
             int answer = -1;
