@@ -582,10 +582,9 @@ public final class ColourTrier {
                 if (slots[slot] != 0) {
                     continue;
                 }
-                if (stateCount >= MOST_STATES) {
+                if (!keep(next, slot, from, act)) {
                     return TOO_MANY;
                 }
-                keep(next, slot, from, act);
                 if (Laws.isBroken(next, what)) {
                     keepRow();
                     return rowLength;
@@ -594,12 +593,16 @@ public final class ColourTrier {
             return GO_ON;
         }
 
-        /** Only while fewer than MOST_STATES are kept. */
-        private void keep(long s, int slot, int from, int act) {
+        /** Answers false, and keeps nothing, where it would be one more than MOST_STATES. */
+        private boolean keep(long s, int slot, int from, int act) {
+            if (stateCount >= MOST_STATES) {
+                return false;
+            }
             states[stateCount] = s;
             origins[stateCount] = from * 64 + act;
             stateCount++;
             slots[slot] = stateCount;
+            return true;
         }
 
         /** The slot that has the STATE, or the free one where it belongs. */

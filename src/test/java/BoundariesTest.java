@@ -1,4 +1,6 @@
 import java.util.Arrays;
+import java.util.List;
+import java.util.function.Consumer;
 import java.util.function.IntConsumer;
 
 /**
@@ -876,6 +878,56 @@ public final class BoundariesTest {
         row("3 ROOTS, 4 times 2 FIELDS, COPY of NOTHING, END", x, 0, 0, 0, 0, 0, 0, 0, 0, 0, 0, 0, copy(0, 1), END);
     }
 
+    /** No call but find is said to change the ROW or what find counted; each is tried by itself. */
+    private static void rowOfTheLatestFind() {
+        List<Consumer<ColourTrier>> others = List.of(
+            x -> x.size(1, 1, 1), x -> x.size(4, 2, 3), x -> x.point(0, 0, 0), x -> x.point(0, 0, -1),
+            x -> x.root(0, -1), x -> x.root(0, 0), x -> x.rules(0, 0), x -> x.rules(127, 8),
+            x -> x.play(LOOK), x -> x.again(), x -> x.broken(FLOATING), x -> x.colour(0),
+            x -> x.field(0, 0), x -> x.has(0), x -> x.count(5), x -> x.act(3));
+        ColourTrier late = simple(0, 1, links(-1), 0);
+        late.find(FLOATING);
+        for (int n = 0; n < others.size(); n++) {
+            ColourTrier x = simple(0, 1, links(-1), 0);
+            x.find(FLOATING);
+            others.get(n).accept(x);
+            row("behind call " + n, x, LOOK, LOOK, load(0, 0, 0), END);
+            due("count(5) behind call " + n, x.count(5), 13);
+            others.get(n).accept(late);
+            row("behind the calls up to " + n, late, LOOK, LOOK, load(0, 0, 0), END);
+            due("count(5) behind the calls up to " + n, late.count(5), 13);
+        }
+        ColourTrier past = tooMany();
+        past.find(LOST);
+        past.size(1, 1, 1);
+        past.rules(0, 0);
+        due("count(5) of a find of -2, behind size and rules", past.count(5), 20000);
+        noRow("a find of -2, behind size and rules", past);
+        past.find(LOST);
+        due("count(5) of the next find", past.count(5), 3);
+    }
+
+    /** The SET-UP as it is when find is called counts, and the STATE played so far does not. */
+    private static void findFromTheFirstState() {
+        ColourTrier x = simple(0, 1, links(-1), 0);
+        playAll(x, LOOK, LOOK, clear(0), END);
+        due("broken(FLOATING) of the STATE", x.broken(FLOATING), true);
+        due("find(FLOATING) when it is over", x.find(FLOATING), 4);
+        row("from the first STATE on", x, LOOK, LOOK, load(0, 0, 0), END);
+        due("count(5)", x.count(5), 13);
+        due("count(7), the STATE stays", x.count(7), 1);
+        due("has(0), the STATE stays", x.has(0), -1);
+        due("find(LOST) when it is over", x.find(LOST), -1);
+        due("count(7) behind -1", x.count(7), 1);
+        due("broken(FLOATING) behind -1", x.broken(FLOATING), true);
+        ColourTrier y = tooMany();
+        playAll(y, LOOK, clear(2));
+        due("find(LOST) in the middle of a play", y.find(LOST), -2);
+        due("has(2) behind -2", y.has(2), -1);
+        due("count(8) behind -2", y.count(8), 7);
+        colours("behind -2", y, 1, 0);
+    }
+
     /** 20001 STATES in all. */
     private static ColourTrier tooMany() {
         return simple(40, 8, links(1, 1), 0, 0, 1);
@@ -1055,6 +1107,8 @@ public final class BoundariesTest {
         run("The first STATE counts", BoundariesTest::statesOfTheSmallest);
         run("ROW is empty with -1 and -2", BoundariesTest::emptyRows);
         run("how many acts", BoundariesTest::longRow);
+        run("Act i of the ROW of the latest find", BoundariesTest::rowOfTheLatestFind);
+        run("STATES in the order in which they are come to", BoundariesTest::findFromTheFirstState);
         run("more than 20000 STATES would be come to: -2", BoundariesTest::limit);
         run("the first that is BROKEN ends it", BoundariesTest::brokenAtTheLimit);
         run("of these the one with the least acts, from the first on", BoundariesTest::leastOfTheShortest);

@@ -53,9 +53,12 @@ public final class FaceTest {
         Class<?> face = ColourTrier.class;
         must(Modifier.isPublic(face.getModifiers()) && Modifier.isFinal(face.getModifiers()),
             "the class is public and final");
+        must(face.getSuperclass() == Object.class && face.getInterfaces().length == 0,
+            "it extends and implements nothing that would add to the face");
         Constructor<?>[] constructors = face.getDeclaredConstructors();
         must(constructors.length == 1 && Modifier.isPublic(constructors[0].getModifiers())
-            && constructors[0].getParameterCount() == 0, "one public constructor, without arguments");
+            && constructors[0].getParameterCount() == 0
+            && constructors[0].getExceptionTypes().length == 0, "one public constructor, without arguments");
         TreeSet<String> due = new TreeSet<>(Arrays.asList(FACE));
         TreeSet<String> seen = new TreeSet<>();
         TreeSet<String> faceNames = new TreeSet<>();

@@ -781,6 +781,23 @@ public final class PromisesTest {
         }
     }
 
+    /** What README.md says that its example answers. */
+    private static void readmeExample() {
+        ColourTrier x = chain(0, 2);
+        due("find(LOST)", x.find(LOST), 7);
+        row("of the example", x, 0, 0, 17, 29, 0, 0, 1);
+        for (int i = 0; i < 7; i++) {
+            x.play(x.act(i));
+        }
+        due("broken(LOST)", x.broken(LOST), true);
+        due("has(1)", x.has(1), 1);
+        due("colour(1)", x.colour(1), 0);
+        x.again();
+        x.rules(1, 2);
+        due("find(LOST) with BARRIER 1", x.find(LOST), -1);
+        due("count(5)", x.count(5), 585);
+    }
+
     private static void run(String name, Runnable test) {
         promise = name;
         try {
@@ -806,6 +823,7 @@ public final class PromisesTest {
         run("promise 12, field", PromisesTest::field);
         run("promise 13, has", PromisesTest::has);
         run("promise 14, count", PromisesTest::count);
+        run("the example of README.md", PromisesTest::readmeExample);
         System.out.println(wrong == 0 ? "all answers are as due" : wrong + " answers are not as due");
         if (wrong != 0) {
             System.exit(1);
