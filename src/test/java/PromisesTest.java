@@ -2,8 +2,8 @@ import java.util.Arrays;
 
 /**
  * Each promise of the document by itself, with answers worked out by hand; but the set-ups at the
- * limit of 20000 STATES were searched for, and ReferenceTest has its model answer them too. No
- * object gets more than 512 calls.
+ * limit of 20000 STATES were searched for, and the counts of 396 and 585 STATES are too many for
+ * that: ReferenceTest has its model answer both kinds too. No object gets more than 512 calls.
  */
 public final class PromisesTest {
     private static final Class<?> ARGUMENT = IllegalArgumentException.class;

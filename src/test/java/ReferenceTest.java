@@ -400,7 +400,18 @@ public final class ReferenceTest {
         compareFind("20001st", x, setUp(x, new int[] {3, 1, 3}, 2, 4, 0, 1, 2, 0, 1, 2), 0);
     }
 
+    /** The example of README.md, whose STATES are too many to be counted by hand. */
+    private static void compareTheExample() {
+        ColourTrier x = new ColourTrier();
+        int[] sizes = {3, 2, 2};
+        compareFind("the example", x, setUp(x, sizes, 0, 2, 1, -1, -1, 2, -1, -1, 0, -1), 0);
+        due("the example: count(5)", x.count(5), 396);
+        compareFind("the example with BARRIER 1", x, setUp(x, sizes, 1, 2, 1, -1, -1, 2, -1, -1, 0, -1), 0);
+        due("the example with BARRIER 1: count(5)", x.count(5), 585);
+    }
+
     public static void main(String[] args) {
+        compareTheExample();
         compareManySetups();
         compareLargeSetups();
         compareAtTheLimit();
